@@ -40,6 +40,10 @@ public final class BooksTest {
         bank.account(0, 0);
         bank.days(9);
         compared(bank, 0, 0, 0, 0);
+        PennyBank other = new PennyBank();
+        other.account(0, 0);
+        other.write(0, 0, 0);
+        compared(other, 0, 0, 1, 0);
         bank.post(0, 0, 5, 70);
         bank.post(0, 1, 5, 70);
         bank.post(0, 0, 6, 70);

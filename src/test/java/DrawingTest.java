@@ -192,6 +192,13 @@ public final class DrawingTest {
         bank.post(0, 0, 1, 90000);
         Check.text(bank, "limit 7 when base = 0;", 1);
         Check.due("a debt counts 0", bank.may(0, 8, 1), 5);
+        PennyBank first = new PennyBank();
+        first.account(0, 0);
+        first.post(0, 0, 0, -5);
+        first.post(0, 0, 0, 900);
+        Check.text(first, "limit 7 when 1;", 0);
+        Check.due("the first entry counts as drawn", first.may(0, 3, 1), 5);
+        Check.due("up to the limit behind it", first.may(0, 2, 1), 0);
         PennyBank later = new PennyBank();
         later.account(0, 0);
         later.post(0, 0, 0, 240 * 200 - 2);

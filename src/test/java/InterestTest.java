@@ -171,6 +171,8 @@ public final class InterestTest {
         worth("1 < 2 and 2 < 3 and 3 = 3", 0, true);
         worth("1 < 2 and 3 < 3", 0, false);
         worth("((((99999)))) = 99999", 0, true);
+        worth("((((1 < 2)))) = 1", 0, true);
+        worth("((((2 < 1 and 1)))) = 1", 0, false);
         worth("10 - (1 + (1 + (1 + 1))) = 6", 0, true);
         worth("99999 + 99999 = 99999 + 99998 + 1", 0, true);
     }

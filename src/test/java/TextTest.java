@@ -48,6 +48,10 @@ public final class TextTest {
         cantStand("limit 5 when {1};", 13);
         cantStand("limit 5 when 1, limit 6 when 1;", 14);
         cantStand("lim it 5 when 1;", 0);
+        cantStand("timit 5 when 1;", 0);
+        cantStand("limix 5 when 1;", 0);
+        cantStand("limitz 5 when 1;", 0);
+        cantStand("limita 5 when 1;", 0);
         cantStand("limit 5 when 1 2;", 15);
         reads("limit 00005 when 00001;", 0);
         reads("limit 5when 1and 2;", 0);
