@@ -5,15 +5,26 @@ import java.util.function.IntSupplier;
 final class Check {
     private static int wrong = 0;
     private static int asked = 0;
+    private static String sentence = "";
 
     private Check() {
+    }
+
+    /** From here on it is this sentence of the document that is looked at. */
+    static void sentence(String told) {
+        sentence = "[" + told + "] ";
+    }
+
+    /** Ints beside a range: those next to it, and the least and the greatest of all. */
+    static int[] beside(int least, int most) {
+        return new int[] {Integer.MIN_VALUE, least - 1, most + 1, Integer.MAX_VALUE};
     }
 
     static void due(String call, long got, long want) {
         asked++;
         if (got != want) {
             wrong++;
-            System.out.println(call + " answered " + got + ", due is " + want);
+            System.out.println(sentence + call + " answered " + got + ", due is " + want);
         }
     }
 
@@ -26,7 +37,7 @@ final class Check {
         try {
             int got = supplier.getAsInt();
             wrong++;
-            System.out.println(call + " answered " + got + ", due is NoSuchElementException");
+            System.out.println(sentence + call + " answered " + got + ", due is NoSuchElementException");
         } catch (NoSuchElementException e) {
             return;
         }
@@ -52,6 +63,22 @@ final class Check {
     static int text(PennyBank bank, String text, int day) {
         feed(bank, text);
         return bank.text(day);
+    }
+
+    static PennyBank withAccounts(int accounts) {
+        PennyBank bank = new PennyBank();
+        for (int i = 0; i < accounts; i++) {
+            bank.account(0, 0);
+        }
+        return bank;
+    }
+
+    /** Lets days pass till NOW is a day. */
+    static void passTo(PennyBank bank, int day) {
+        for (int left = day - bank.count(2); left > 0; left -= 200) {
+            bank.days(Math.min(left, 200));
+        }
+        due("NOW", bank.count(2), day);
     }
 
     static void end() {
