@@ -454,7 +454,7 @@ public final class PennyBank {
         void gatherByDay(int account, int known, int[] row) {
             Arrays.fill(row, 0);
             for (int i = 0; i < size; i++) {
-                if (accounts[i] == account && knownFrom[i] <= known && days[i] < row.length) {
+                if (accounts[i] == account && knownFrom[i] <= known && days[i] >= 0 && days[i] < row.length) {
                     row[days[i]] += sums[i];
                 }
             }
